@@ -843,5 +843,9 @@ public final class PromiseTest {
         x.back(1);
         due.is("late(0) when one is back", x.late(0), 3);
         due.is("late(1)", x.late(1), NONE);
+        x.today(91);
+        due.is("late(0), the first tool", x.late(0), 0);
+        due.is("late(1)", x.late(1), 3);
+        due.is("late(2)", x.late(2), NONE);
     }
 }
