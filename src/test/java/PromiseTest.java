@@ -37,24 +37,6 @@ public final class PromiseTest {
         due.end();
     }
 
-    /** One part of kind 0 and one ask of 100 cents for product 0, which fit. */
-    private static PartShelves onePair() {
-        PartShelves x = new PartShelves();
-        x.fits(0, 0, true);
-        x.part(0, 0, 50);
-        x.ask(0, 100, 0);
-        return x;
-    }
-
-    /** The one pair, sold to person 7 on day 10. */
-    private static PartShelves oneSale() {
-        PartShelves x = onePair();
-        x.today(10);
-        x.match();
-        x.serve(0, 7);
-        return x;
-    }
-
     private static void newObject() {
         due.at("promise 1");
         PartShelves x = new PartShelves();
@@ -128,7 +110,7 @@ public final class PromiseTest {
 
     private static void fits() {
         due.at("promise 4");
-        PartShelves x = onePair();
+        PartShelves x = Scenes.onePair();
         due.is("fits(6, 0)", x.fits(6, 0, true), false);
         due.is("fits(0, 6)", x.fits(0, 6, true), false);
         due.is("fits(-1, 0)", x.fits(-1, 0, true), false);
@@ -204,7 +186,7 @@ public final class PromiseTest {
 
     private static void state() {
         due.at("promise 7");
-        PartShelves x = oneSale();
+        PartShelves x = Scenes.oneSale();
         x.part(1, 0, 1);
         x.part(2, 0, 2);
         x.ask(3, 0, 0);
@@ -247,7 +229,7 @@ public final class PromiseTest {
 
     private static void hold() {
         due.at("promise 9");
-        PartShelves x = onePair();
+        PartShelves x = Scenes.onePair();
         x.today(10);
         for (int number : NO_NUMBERS) {
             due.is("hold of no part", x.hold(number, 0, 20), false);
@@ -266,7 +248,7 @@ public final class PromiseTest {
         x.today(100000);
         due.is("state(0)", x.state(0), 1);
 
-        PartShelves sold = oneSale();
+        PartShelves sold = Scenes.oneSale();
         sold.part(0, 0, 0);
         sold.part(1, 0, 0);
         sold.ask(0, 0, 0);
@@ -292,7 +274,7 @@ public final class PromiseTest {
         due.is("worth()", edge.worth(), 0);
         due.is("of(1)", edge.of(1), 0);
 
-        PartShelves held = onePair();
+        PartShelves held = Scenes.onePair();
         held.ask(0, 200, 5);
         held.hold(0, 0, 3);
         due.is("match() of a held part", held.match(), 1);
@@ -303,7 +285,7 @@ public final class PromiseTest {
         due.is("of(1)", held.of(1), 0);
         due.is("worth()", held.worth(), 200);
 
-        PartShelves sold = oneSale();
+        PartShelves sold = Scenes.oneSale();
         sold.ask(0, 100, 0);
         due.is("match() of a sold part", sold.match(), 0);
         sold.part(0, 0, 1);
@@ -372,7 +354,7 @@ public final class PromiseTest {
 
     private static void of() {
         due.at("promise 11");
-        PartShelves x = onePair();
+        PartShelves x = Scenes.onePair();
         due.is("of(0) before a match", x.of(0), NONE);
         x.match();
         x.ask(0, 500, 0);
@@ -388,13 +370,13 @@ public final class PromiseTest {
         x.match();
         due.is("of(0)", x.of(0), NONE);
 
-        PartShelves sold = oneSale();
+        PartShelves sold = Scenes.oneSale();
         due.is("of(0) when it was served", sold.of(0), 0);
     }
 
     private static void worth() {
         due.at("promise 12");
-        PartShelves x = onePair();
+        PartShelves x = Scenes.onePair();
         due.is("worth() before a match", x.worth(), NONE);
         x.match();
         due.is("worth()", x.worth(), 100);
@@ -460,7 +442,7 @@ public final class PromiseTest {
 
     private static void serve() {
         due.at("promise 14");
-        PartShelves x = onePair();
+        PartShelves x = Scenes.onePair();
         x.ask(1, 100, 0);
         due.is("serve(0, 0) before a match", x.serve(0, 0), NONE);
         x.match();
@@ -482,7 +464,7 @@ public final class PromiseTest {
 
     private static void serveNeedsAPairStill() {
         due.at("promise 14, a pair still");
-        PartShelves x = onePair();
+        PartShelves x = Scenes.onePair();
         x.ask(0, 5, 0);
         x.match();
         x.fits(0, 0, false);
@@ -494,19 +476,19 @@ public final class PromiseTest {
         x.hold(0, 0, 4);
         due.is("serve when it is held for this ask", x.serve(0, 1), 0);
 
-        PartShelves dear = onePair();
+        PartShelves dear = Scenes.onePair();
         dear.match();
         dear.row(0, 101);
         due.is("serve when it is too dear", dear.serve(0, 1), NONE);
         due.is("state(0)", dear.state(0), 0);
 
-        PartShelves recalled = onePair();
+        PartShelves recalled = Scenes.onePair();
         recalled.match();
         recalled.recall(0, 50, 50);
         due.is("serve when it is recalled", recalled.serve(0, 1), NONE);
         due.is("state(0)", recalled.state(0), 3);
 
-        PartShelves later = onePair();
+        PartShelves later = Scenes.onePair();
         later.hold(0, 0, 3);
         later.match();
         later.today(9);
@@ -556,7 +538,7 @@ public final class PromiseTest {
         due.at("promise 17");
         due.is("plan() of nothing", new PartShelves().plan(), 0);
 
-        PartShelves x = onePair();
+        PartShelves x = Scenes.onePair();
         x.job();
         x.needs(0, 0, 1);
         due.is("plan() with a free part", x.plan(), 1);
@@ -663,7 +645,7 @@ public final class PromiseTest {
 
     private static void warranty() {
         due.at("promise 20");
-        PartShelves x = oneSale();
+        PartShelves x = Scenes.oneSale();
         due.is("warranty(-1, 5)", x.warranty(-1, 5), false);
         due.is("warranty(6, 5)", x.warranty(6, 5), false);
         due.is("warranty(0, -1)", x.warranty(0, -1), false);
@@ -679,23 +661,23 @@ public final class PromiseTest {
 
     private static void returned() {
         due.at("promise 21");
-        PartShelves same = oneSale();
+        PartShelves same = Scenes.oneSale();
         due.is("returned(0) on the day of the sale", same.returned(0), true);
         due.is("state(0)", same.state(0), 0);
         due.is("returned(0) of a free part", same.returned(0), false);
 
-        PartShelves next = oneSale();
+        PartShelves next = Scenes.oneSale();
         next.today(11);
         due.is("returned(0) without a warranty", next.returned(0), false);
         due.is("state(0)", next.state(0), 2);
 
-        PartShelves last = oneSale();
+        PartShelves last = Scenes.oneSale();
         last.warranty(0, 5);
         last.warranty(1, 1000);
         last.today(15);
         due.is("returned(0) on the last day", last.returned(0), true);
 
-        PartShelves behind = oneSale();
+        PartShelves behind = Scenes.oneSale();
         behind.warranty(0, 5);
         behind.today(16);
         due.is("returned(0) a day behind", behind.returned(0), false);
@@ -704,7 +686,7 @@ public final class PromiseTest {
             due.is("returned", behind.returned(number), false);
         }
 
-        PartShelves other = onePair();
+        PartShelves other = Scenes.onePair();
         other.hold(0, 0, 5);
         due.is("returned(0) of a held part", other.returned(0), false);
         due.is("state(0)", other.state(0), 1);
@@ -712,7 +694,7 @@ public final class PromiseTest {
         due.is("returned(0) of a recalled part", other.returned(0), false);
         due.is("state(0)", other.state(0), 3);
 
-        PartShelves told = oneSale();
+        PartShelves told = Scenes.oneSale();
         due.is("recall(0, 0, 100)", told.recall(0, 0, 100), 1);
         due.is("returned(0) of a part told as sold", told.returned(0), true);
         due.is("state(0)", told.state(0), 0);
@@ -743,7 +725,7 @@ public final class PromiseTest {
         due.is("state(0)", x.state(0), 3);
         due.is("state(4)", x.state(4), 3);
 
-        PartShelves sold = oneSale();
+        PartShelves sold = Scenes.oneSale();
         sold.part(0, 0, 50);
         due.is("recall(0, 50, 50)", sold.recall(0, 50, 50), 1);
         due.is("state(0), sold", sold.state(0), 2);
