@@ -429,6 +429,9 @@ final class MatchBoundaries {
             recalled.recall(0, 50, 50);
             due.is("serve(0, 1) when it is recalled", recalled.serve(0, 1), NONE);
             due.is("state(0)", recalled.state(0), Scenes.RECALLED);
+            recalled.part(0, 0, 51);
+            due.is("match(): the ask is open still", recalled.match(), 1);
+            due.is("serve(0, 1) with another part", recalled.serve(0, 1), 1);
 
             PartShelves held = Scenes.alike(1, 2, 5);
             held.match();

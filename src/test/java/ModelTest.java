@@ -4,6 +4,7 @@ import java.util.Random;
 public final class ModelTest {
     private static final int RUNS = 3000;
     private static final int CALLS = 400;
+    private static final int DENSE_RUNS = 60;
     private static final int[] ODD_INTS = {-1, 8, 100001, 1001, Integer.MIN_VALUE, Integer.MAX_VALUE};
     private static final long[] ODD_LONGS = {-1, 1000000001L, 1L << 32, Long.MIN_VALUE, Long.MAX_VALUE};
     private static final Due due = new Due("ModelTest");
@@ -32,7 +33,32 @@ public final class ModelTest {
             }
             test.lookAtAll();
         }
+        for (int run = 0; run < DENSE_RUNS && due.wrong() < 20; run++) {
+            due.at("dense run " + run);
+            new ModelTest(run).denseMatch(run % 5 == 0 ? 8 : 7);
+        }
         due.end();
+    }
+
+    /** Nearly all parts and asks are pairs, which mixed calls seldom come to. */
+    private void denseMatch(int size) {
+        for (int i = 0; i < 6; i++) {
+            row();
+        }
+        for (int kind = 0; kind < 6; kind++) {
+            for (int product = 0; product < 6; product++) {
+                boolean is = random.nextInt(8) != 0;
+                due.is("fits(" + kind + ", " + product + ", " + is + ")", x.fits(kind, product, is),
+                        m.fits(kind, product, is));
+            }
+        }
+        while (m.parts.size() < size) {
+            part();
+        }
+        while (m.asks.size() < size) {
+            ask();
+        }
+        match();
     }
 
     /** Below a bound, or now and then something else. */

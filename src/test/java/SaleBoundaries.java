@@ -124,6 +124,13 @@ final class SaleBoundaries {
             due.is("match()", x.match(), 1);
             due.is("of(1)", x.of(1), 0);
             due.is("hold(0, 1, 10)", x.hold(0, 1, 10), true);
+
+            PartShelves sold = Scenes.oneSale();
+            due.is("recall() that tells it as sold", sold.recall(0, 50, 50), 1);
+            due.is("returned(0) then", sold.returned(0), true);
+            due.is("state(0): it was not recalled", sold.state(0), Scenes.FREE);
+            due.is("recall() when it is free again", sold.recall(0, 50, 50), 0);
+            due.is("state(0) then", sold.state(0), Scenes.RECALLED);
         });
         told.test("Answers true; false otherwise.", () -> {
             PartShelves x = Scenes.oneSale();
