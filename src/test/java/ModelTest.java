@@ -40,7 +40,7 @@ public final class ModelTest {
         due.end();
     }
 
-    /** Nearly all parts and asks are pairs, which mixed calls seldom come to. */
+    /** Most parts and asks are pairs: mixed calls seldom come to that, or are too dear for the model then. */
     private void denseMatch(int size) {
         for (int i = 0; i < 6; i++) {
             row();
